@@ -16,8 +16,8 @@ final class Model {
     private final String[] words = new String[8];
     private String text = "";
     private Ratio hand = Ratio.of(0, 1);
-    /** BEST is dear here: kept by source and word. */
-    private final Map<String, Best> answers = new HashMap<>();
+    /** BEST is dear here: kept by source and word, for all models. */
+    private static final Map<String, Best> ANSWERS = new HashMap<>();
 
     private record Best(int code, Ratio chance) {
     }
@@ -237,7 +237,7 @@ final class Model {
                 return NONE;
             }
         }
-        Best found = answers.computeIfAbsent(weights.length + " " + word, key -> bestTo(word));
+        Best found = ANSWERS.computeIfAbsent(weights.length + " " + word, key -> bestTo(word));
         hand = found.chance;
         return found.code;
     }

@@ -2,8 +2,11 @@ import java.util.Random;
 
 /** Promises 1 to 23: runs of calls by chance, good ones and wrong ones, each answered by the class and by the model. */
 public final class ModelTest {
-    private static final int RUNS = 60;
-    private static final int CALLS = 512;
+    private static final int RUNS = 220;
+    /** The document promises nothing behind an object's 512th call. */
+    private static final int MOST_CALLS = 512;
+    /** A new source, the words that are told and spelt behind it, and the fraction. */
+    private static final int CALLS_OF_A_STEP = 1 + 8 + 8 + 2;
     private static final int[] EXTREMES = {
         Integer.MIN_VALUE, Integer.MIN_VALUE + 1, -256, -9, -2, -1, 0, 1, 2, 7, 8, 9, 31, 32, 33, 255, 256, 299, 300, 301,
         1 << 30, Integer.MAX_VALUE - 1, Integer.MAX_VALUE};
@@ -15,6 +18,7 @@ public final class ModelTest {
     private final Model model = new Model();
     private final LettersByLot lots = new LettersByLot();
     private int letters = 2;
+    private int calls = 0;
 
     private ModelTest(int seed) {
         random = new Random(seed);
@@ -29,9 +33,10 @@ public final class ModelTest {
 
     private void run(int run) {
         setUp(SOURCES[run % SOURCES.length]);
-        for (int call = 0; call < CALLS; call++) {
-            String told = "run " + run + ", call " + call + ": ";
+        while (calls + CALLS_OF_A_STEP <= MOST_CALLS) {
+            String told = "run " + run + ", call " + calls + ": ";
             ask(told);
+            calls += 3;
             Check.due(told + "top()", lots.top(), model.top());
             Check.due(told + "bottom()", lots.bottom(), model.bottom());
         }
@@ -45,6 +50,7 @@ public final class ModelTest {
         }
         int seed = random.nextInt();
         Check.due("draw", lots.draw(seed, 100), model.draw(seed, 100));
+        calls = 1 + 8 + 1;
     }
 
     private int wild() {
@@ -79,6 +85,7 @@ public final class ModelTest {
         Check.due(told + "source(" + java.util.Arrays.toString(s) + ")", lots.source(s[0], s[1], s[2], s[3], s[4]), due);
         if (due != Model.NONE) {
             letters = s[0];
+            calls += 8 + 8;
             for (int slot = 0; slot < 8; slot++) {
                 Check.due(told + "tell", lots.tell(slot, 0), model.tell(slot, 0));
                 spell(told, slot);
