@@ -135,19 +135,26 @@ public final class BoundsOfCountsTest {
 
     /** "at just k places", k above what the text has room for */
     private static void timesOfKBeyondWhatFits() {
-        LettersByLot lots = new LettersByLot();
         for (int length = 1; length <= 5; length++) {
+            LettersByLot lots = new LettersByLot();
             lots.word(0, length, 0);
             for (int n : new int[] {5, 30}) {
                 int most = n - length + 1;
                 Check.due("17: all places", lots.times(0, n, most, true), 1);
                 Check.due("17: all places or more", lots.times(0, n, most, false), 1);
-                for (int k : new int[] {most + 1, most + 2, n + 1, 31, 32, 64, 256, GREATEST - 1, GREATEST}) {
-                    Check.due("17: just k " + k + ", n " + n, lots.times(0, n, k, true), 0);
-                    Check.due("17: k " + k + " or more, n " + n, lots.times(0, n, k, false), 0);
+                for (int k = most + 1; k <= n + 2; k++) {
+                    noneHasSoMany(lots, n, k);
+                }
+                for (int k : new int[] {32, 33, 64, 256, GREATEST - 1, GREATEST}) {
+                    noneHasSoMany(lots, n, k);
                 }
             }
         }
+    }
+
+    private static void noneHasSoMany(LettersByLot lots, int n, int k) {
+        Check.due("17: just k " + k + ", n " + n, lots.times(0, n, k, true), 0);
+        Check.due("17: k " + k + " or more, n " + n, lots.times(0, n, k, false), 0);
     }
 
     /** Texts of one letter less than the WORD, of as many and of one more. */
