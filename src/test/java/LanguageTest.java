@@ -33,6 +33,7 @@ public final class LanguageTest {
                     && constructor.getParameterCount() == 0, true);
         }
         nested(face);
+        sizes(face);
         text();
         Check.end();
     }
@@ -83,6 +84,20 @@ public final class LanguageTest {
             Check.due("rules 1 and 2: " + type, Modifier.isStatic(modifiers)
                     && !Modifier.isPublic(modifiers) && !Modifier.isProtected(modifiers), true);
             fields(type);
+        }
+    }
+
+    private static void sizes(Class<?> type) {
+        int fields = 0;
+        for (Field field : type.getDeclaredFields()) {
+            fields += Modifier.isStatic(field.getModifiers()) ? 0 : 1;
+        }
+        Check.due("rule 11: fields of " + type, fields <= 20, true);
+        for (Method method : type.getDeclaredMethods()) {
+            Check.due("rule 11: parameters of " + method, method.getParameterCount() <= 7, true);
+        }
+        for (Class<?> inside : type.getDeclaredClasses()) {
+            sizes(inside);
         }
     }
 
